@@ -1,0 +1,146 @@
+import java.io.IOException;
+import java.lang.management.ManagementFactory;
+import java.lang.reflect.Constructor;
+import java.lang.reflect.Field;
+import java.lang.reflect.Method;
+import java.lang.reflect.Modifier;
+import java.nio.file.Files;
+import java.nio.file.Path;
+import java.util.Arrays;
+import java.util.Set;
+import java.util.TreeSet;
+import java.util.function.IntConsumer;
+import java.util.regex.Matcher;
+import java.util.regex.Pattern;
+
+/** The face of the class, the rules of LANGUAGE.md that a test can see, and the room that a run may take. */
+public final class RowFormsRules {
+    private static final String FACE = "back(1) behind(2) canon(2) derived(2) fault(1) filling(2) fillings(1) image(1) "
+        + "leads(3) load(1) making(4) named(0) partner(2) punch(0) restore(1) say(1) shared(3) sign(3) step(2) "
+        + "told(1) tone(2) turn(3) wipe(0)";
+    private static final String CONSTANTS = "FULL=-4 NO=-5 NONE=-6 OUTSIDE=-2 STATE=-3 UNKNOWN=-1";
+    private static final String[] FORBIDDEN = {"throw", "throws", "try", "catch", "finally", "synchronized", "assert",
+        "->", "::", "import", "package", "protected", "native", "Exact", "hashCode", "toString", "Object", "System\\.(?!arraycopy)"};
+    private static final int CALLS = 512;
+    private static final long MOST_BYTES = 64 * 1024;
+    private static int wrong = 0;
+
+    public static void main(String[] args) throws IOException, IllegalAccessException {
+        theFace();
+        theConstants();
+        theNames();
+        theSource(Path.of("src/main/java/RowForms.java"));
+        theRoom();
+        System.out.println(wrong == 0 ? "the rules are kept" : wrong + " rules are broken");
+        if (wrong != 0) {
+            System.exit(1);
+        }
+    }
+
+    private static void due(String what, String got, String want) {
+        if (!got.equals(want)) {
+            wrong++;
+            System.out.println(what + ": " + got + ", due is " + want);
+        }
+    }
+
+    private static void theFace() {
+        Set<String> methods = new TreeSet<>();
+        for (Method method : RowForms.class.getDeclaredMethods()) {
+            if (!Modifier.isPrivate(method.getModifiers())) {
+                methods.add(method.getName() + "(" + method.getParameterCount() + ")");
+                due(method.getName(), Modifier.toString(method.getModifiers()) + " " + method.getReturnType(), "public int");
+            }
+        }
+        due("methods", String.join(" ", methods), FACE);
+        Constructor<?>[] constructors = RowForms.class.getDeclaredConstructors();
+        due("constructors", Arrays.toString(constructors), "[public RowForms()]");
+        due("class", Modifier.toString(RowForms.class.getModifiers()), "public final");
+        for (Class<?> inside : RowForms.class.getDeclaredClasses()) {
+            due(inside.getName() + " is static", "" + Modifier.isStatic(inside.getModifiers()), "true");
+        }
+    }
+
+    private static void theConstants() throws IllegalAccessException {
+        Set<String> constants = new TreeSet<>();
+        for (Field field : RowForms.class.getDeclaredFields()) {
+            int is = field.getModifiers();
+            if (!Modifier.isPrivate(is)) {
+                constants.add(field.getName() + "=" + field.get(null));
+                due(field.getName(), Modifier.toString(is) + " " + field.getType(), "public static final int");
+            }
+            due(field.getName() + " is final", "" + Modifier.isFinal(is), "true");
+        }
+        due("constants", String.join(" ", constants), CONSTANTS);
+    }
+
+    private static void theNames() {
+        for (Class<?> inside : RowForms.class.getDeclaredClasses()) {
+            for (Method method : inside.getDeclaredMethods()) {
+                due("a method inside bears a public name: " + method.getName(),
+                    "" + (" " + FACE).contains(" " + method.getName() + "("), "false");
+            }
+        }
+        for (Method method : RowForms.class.getDeclaredMethods()) {
+            if (Modifier.isPrivate(method.getModifiers())) {
+                due("a private method bears a public name: " + method.getName(),
+                    "" + (" " + FACE).contains(" " + method.getName() + "("), "false");
+            }
+        }
+    }
+
+    private static void theSource(Path file) throws IOException {
+        String code = Files.readString(file).replaceAll("(?s)/\\*.*?\\*/", "").replaceAll("//[^\n]*", "");
+        for (String word : FORBIDDEN) {
+            Matcher found = Pattern.compile(word.matches("\\w+") ? "\\b" + word + "\\b" : word).matcher(code);
+            due("'" + word + "' in the code", "" + found.find(), "false");
+        }
+        int lines = 0;
+        for (String line : code.split("\n")) {
+            lines = line.matches("    (    )?\\}") || line.isBlank() ? 0 : lines + 1;
+            due("a method of over sixty lines", "" + (lines > 60), "false");
+        }
+    }
+
+    /** 512 calls of each kind, the dearest arguments among them, on one object. */
+    private static void theRoom() {
+        room("making", x -> i -> x.making(0, 3, i % 2 == 0 ? -1 : 1295, i % 2 == 0 ? 0 : 11));
+        room("fillings", x -> i -> x.fillings(i % 48));
+        room("filling", x -> i -> x.filling(i % 48, i % 12));
+        room("canon", x -> i -> x.canon(0, i % 14));
+        room("shared", x -> i -> x.shared(0, i % 48, 2 + i % 5));
+        room("leads", x -> i -> x.leads(0, 1, -1));
+        room("partner", x -> i -> x.partner(0, -1));
+        room("derived", x -> i -> x.derived(0, 3));
+        room("sign", x -> i -> x.sign(0, i % 48, i % 18));
+        room("turn", x -> i -> x.turn(0, i % 48, i % 4));
+        room("image", x -> i -> x.image(i % 2));
+        room("restore", x -> i -> x.restore(i % 2));
+        room("say", x -> i -> x.say(33 + i % 94));
+        room("told", x -> i -> x.told(i % 300));
+    }
+
+    private interface Calls {
+        IntConsumer on(RowForms x);
+    }
+
+    private static void room(String name, Calls calls) {
+        com.sun.management.ThreadMXBean memory = (com.sun.management.ThreadMXBean) ManagementFactory.getThreadMXBean();
+        long least = Long.MAX_VALUE;
+        // The least of a few tries, as the machine itself makes objects when it first meets a call.
+        for (int time = 0; time < 5; time++) {
+            long before = memory.getCurrentThreadAllocatedBytes();
+            RowForms x = new RowForms();
+            for (char sign : "0481592637te".toCharArray()) {
+                x.say(sign);
+            }
+            x.load(0);
+            IntConsumer call = calls.on(x);
+            for (int i = 0; i < CALLS - 13; i++) {
+                call.accept(i);
+            }
+            least = Math.min(least, memory.getCurrentThreadAllocatedBytes() - before);
+        }
+        due(name + " takes too much room (" + least + " bytes)", "" + (least > MOST_BYTES), "false");
+    }
+}
