@@ -108,7 +108,8 @@ public final class RowForms {
         if (!isForm(f) || !isForm(g)) {
             return UNKNOWN;
         }
-        // g's number is where tone 0 goes first, and f takes it from there; mirrors and backward readings cancel in pairs.
+        // g's number is where tone 0 goes first, and f takes it from there; mirrors, and backward readings, cancel
+        // in pairs.
         return (f / TONES ^ g / TONES) * TONES + turnedTone(g % TONES, f);
     }
 
@@ -242,7 +243,8 @@ public final class RowForms {
             return 0;
         }
         int free = holesOf(scratch);
-        // Read backwards, a free hole is told by the one across from it: pairs of tones go to pairs of places, either way round.
+        // Read backwards, a free hole is told by the one across from it: pairs of tones go to pairs of places, and
+        // each either way round.
         return isBackwards(form) ? factorial(free / 2) << free / 2 : factorial(free);
     }
 

@@ -344,7 +344,8 @@ public final class RowFormsModel {
                 return NAMES.contains(signs);
             }
             String tones = as == 1 ? signs.replace("?", "") : signs;
-            return signs.length() <= 12 && tones.matches("[0-9te]*") && tones.chars().distinct().count() == tones.length();
+            return signs.length() <= 12 && tones.matches("[0-9te]*")
+                && tones.chars().distinct().count() == tones.length();
         }
 
         private int fault(int as) {

@@ -20,7 +20,8 @@ public final class RowFormsRules {
         + "told(1) tone(2) turn(3) wipe(0)";
     private static final String CONSTANTS = "FULL=-4 NO=-5 NONE=-6 OUTSIDE=-2 STATE=-3 UNKNOWN=-1";
     private static final String[] FORBIDDEN = {"throw", "throws", "try", "catch", "finally", "synchronized", "assert",
-        "->", "::", "import", "package", "protected", "native", "Exact", "hashCode", "toString", "Object", "System\\.(?!arraycopy)"};
+        "->", "::", "import", "package", "protected", "native", "Exact", "hashCode", "toString", "Object",
+        "System\\.(?!arraycopy)"};
     private static final int CALLS = 512;
     private static final long MOST_BYTES = 64 * 1024;
     private static int wrong = 0;
@@ -49,7 +50,8 @@ public final class RowFormsRules {
         for (Method method : RowForms.class.getDeclaredMethods()) {
             if (!Modifier.isPrivate(method.getModifiers())) {
                 methods.add(method.getName() + "(" + method.getParameterCount() + ")");
-                due(method.getName(), Modifier.toString(method.getModifiers()) + " " + method.getReturnType(), "public int");
+                String is = Modifier.toString(method.getModifiers());
+                due(method.getName(), is + " " + method.getReturnType(), "public int");
             }
         }
         due("methods", String.join(" ", methods), FACE);
