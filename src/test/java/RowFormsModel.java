@@ -9,7 +9,8 @@ import java.util.TreeSet;
 
 /**
  * Long runs of calls, drawn from fixed seeds, against a second reading of the document that tries all there is
- * (all fillings, all rows made) instead of counting.
+ * (all fillings, all rows made) instead of counting; only the fillings by P0 of more than six holes are counted
+ * here too, for they are too many to try.
  */
 public final class RowFormsModel {
     private static final String SIGNS = "0123456789te";
