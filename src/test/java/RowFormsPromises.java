@@ -4,11 +4,9 @@ import java.util.function.IntUnaryOperator;
  * For each promise of the document: ordinary calls, the edges it names, and each refusal.
  * No object here is used for more than 512 calls, for behind these all answers are free.
  */
-public final class RowFormsPromises {
+public final class RowFormsPromises extends Due {
     private static final int[] WRONG = {Integer.MIN_VALUE, Integer.MIN_VALUE + 1, -100, -7, -6, -2, -1};
-    private static final String BERG = "9678453et102";
-    private static int wrong = 0;
-    private static int asked = 0;
+    private static final String BERG = Signs.BERG;
 
     public static void main(String[] args) {
         promise1NewObject();
@@ -37,26 +35,7 @@ public final class RowFormsPromises {
         promise22Image();
         promise23Restore();
         promise24Told();
-        System.out.println(asked + " answers, " + wrong + " of them not as due");
-        if (wrong != 0) {
-            System.exit(1);
-        }
-    }
-
-    private static void due(String call, int got, int want) {
-        asked++;
-        if (got != want) {
-            wrong++;
-            System.out.println(call + " answered " + got + ", due is " + want);
-        }
-    }
-
-    private static void due(String call, String got, String want) {
-        asked++;
-        if (!got.equals(want)) {
-            wrong++;
-            System.out.println(call + " gave " + got + ", due is " + want);
-        }
+        end();
     }
 
     /** Asks with numbers below 0 and from a first one above on. */
@@ -95,48 +74,24 @@ public final class RowFormsPromises {
         return x;
     }
 
-    private static char signOf(int tone) {
-        return tone >= 0 && tone < 12 ? "0123456789te".charAt(tone) : tone == RowForms.NONE ? '?' : '!';
-    }
-
     private static String row(RowForms x, int row) {
-        StringBuilder text = new StringBuilder();
-        for (int place = 0; place < 12; place++) {
-            text.append(signOf(x.tone(row, place)));
-        }
-        return text.toString();
+        return Signs.of(12, place -> x.tone(row, place));
     }
 
     private static String pattern(RowForms x) {
-        StringBuilder text = new StringBuilder();
-        for (int place = 0; place < 12; place++) {
-            text.append(signOf(x.told(100 + place)));
-        }
-        return text.toString();
+        return Signs.of(12, place -> x.told(100 + place));
     }
 
     private static String canon(RowForms x, int row) {
-        StringBuilder text = new StringBuilder();
-        for (int place = 0; place < 12; place++) {
-            text.append(signOf(x.canon(row, place)));
-        }
-        return text.toString();
+        return Signs.of(12, place -> x.canon(row, place));
     }
 
     private static String filling(RowForms x, int form) {
-        StringBuilder text = new StringBuilder();
-        for (int place = 0; place < 12; place++) {
-            text.append(signOf(x.filling(form, place)));
-        }
-        return text.toString();
+        return Signs.of(12, place -> x.filling(form, place));
     }
 
     private static String made(RowForms x, int n, int i) {
-        StringBuilder text = new StringBuilder();
-        for (int place = 0; place < 12; place++) {
-            text.append(signOf(x.making(0, n, i, place)));
-        }
-        return text.toString();
+        return Signs.of(12, place -> x.making(0, n, i, place));
     }
 
     private static String written(RowForms x, int form) {
@@ -391,7 +346,7 @@ public final class RowFormsPromises {
             due("the row that becomes it", row(z, 2), "019845376et2");
         }
         RowForms y = withRow("e9t876543210");
-        due("canon of a falling row", canon(y, 0), canonOf("e9t876543210"));
+        due("canon of a falling row", canon(y, 0), Signs.least("e9t876543210"));
         due("canon of a rising row", canon(y, 1), "0123456789te");
         due("its form", y.canon(1, 12), 0);
         due("its size", y.canon(1, 13), 24);
@@ -402,26 +357,6 @@ public final class RowFormsPromises {
         refused("canon of a row", r -> x.canon(r, 0), 4, RowForms.UNKNOWN);
         refused("canon, what", w -> x.canon(0, w), 14, RowForms.OUTSIDE);
         refused("canon, both wrong", w -> x.canon(-1, w), 14, RowForms.UNKNOWN);
-    }
-
-    /** The least text among the forms, where a letter stands for each tone in their order. */
-    private static String canonOf(String signs) {
-        String least = "z";
-        for (int form = 0; form < 48; form++) {
-            StringBuilder text = new StringBuilder();
-            for (int place = 0; place < 12; place++) {
-                int tone = "0123456789te".indexOf(signs.charAt(place));
-                int n = form % 12;
-                text.append((char) ('a' + (form / 12 % 2 == 0 ? tone + n : 12 + n - tone) % 12));
-            }
-            String letters = (form >= 24 ? text.reverse() : text).toString();
-            least = letters.compareTo(least) < 0 ? letters : least;
-        }
-        StringBuilder text = new StringBuilder();
-        for (int place = 0; place < 12; place++) {
-            text.append(signOf(least.charAt(place) - 'a'));
-        }
-        return text.toString();
     }
 
     private static void promise13Leads() {

@@ -14,7 +14,7 @@ import java.util.regex.Matcher;
 import java.util.regex.Pattern;
 
 /** The face of the class, the rules of LANGUAGE.md that a test can see, and the room that a run may take. */
-public final class RowFormsRules {
+public final class RowFormsRules extends Due {
     private static final String FACE = "back(1) behind(2) canon(2) derived(2) fault(1) filling(2) fillings(1) image(1) "
         + "leads(3) load(1) making(4) named(0) partner(2) punch(0) restore(1) say(1) shared(3) sign(3) step(2) "
         + "told(1) tone(2) turn(3) wipe(0)";
@@ -24,7 +24,6 @@ public final class RowFormsRules {
         "System\\.(?!arraycopy)"};
     private static final int CALLS = 512;
     private static final long MOST_BYTES = 64 * 1024;
-    private static int wrong = 0;
 
     public static void main(String[] args) throws IOException, IllegalAccessException {
         theFace();
@@ -32,17 +31,7 @@ public final class RowFormsRules {
         theNames();
         theSource(Path.of("src/main/java/RowForms.java"));
         theRoom();
-        System.out.println(wrong == 0 ? "the rules are kept" : wrong + " rules are broken");
-        if (wrong != 0) {
-            System.exit(1);
-        }
-    }
-
-    private static void due(String what, String got, String want) {
-        if (!got.equals(want)) {
-            wrong++;
-            System.out.println(what + ": " + got + ", due is " + want);
-        }
+        end();
     }
 
     private static void theFace() {
