@@ -104,6 +104,7 @@ public final class RowFormsPromises extends Due {
     }
 
     private static void promise1NewObject() {
+        sentence("promise 1, new object");
         RowForms x = new RowForms();
         for (int r = 0; r < 4; r++) {
             due("a new row", row(x, r), "0123456789te");
@@ -118,6 +119,7 @@ public final class RowFormsPromises extends Due {
     }
 
     private static void promise2Say() {
+        sentence("promise 2, say");
         RowForms x = new RowForms();
         refused("say", x::say, 127, RowForms.OUTSIDE);
         due("say(0)", x.say(0), RowForms.OUTSIDE);
@@ -135,6 +137,7 @@ public final class RowFormsPromises extends Due {
     }
 
     private static void promise3Wipe() {
+        sentence("promise 3, wipe");
         RowForms x = new RowForms();
         due("wipe of none", x.wipe(), 0);
         tell(x, "P01");
@@ -152,6 +155,7 @@ public final class RowFormsPromises extends Due {
     }
 
     private static void promise4FaultAsRow() {
+        sentence("promise 4, fault as row");
         refused("fault", new RowForms()::fault, 3, RowForms.OUTSIDE);
         fault(0, "", 0);
         fault(0, BERG, RowForms.NONE);
@@ -174,6 +178,7 @@ public final class RowFormsPromises extends Due {
     }
 
     private static void promise4FaultAsPattern() {
+        sentence("promise 4, fault as pattern");
         fault(1, "", 0);
         fault(1, "????????????", RowForms.NONE);
         fault(1, BERG, RowForms.NONE);
@@ -186,6 +191,7 @@ public final class RowFormsPromises extends Due {
     }
 
     private static void promise4FaultAsForm() {
+        sentence("promise 4, fault as form");
         fault(2, "", 0);
         fault(2, "P", 1);
         fault(2, "I", 1);
@@ -217,6 +223,7 @@ public final class RowFormsPromises extends Due {
     }
 
     private static void promise5Load() {
+        sentence("promise 5, load");
         RowForms x = new RowForms();
         tell(x, BERG);
         refused("load", x::load, 4, RowForms.UNKNOWN);
@@ -236,6 +243,7 @@ public final class RowFormsPromises extends Due {
     }
 
     private static void promise6Punch() {
+        sentence("promise 6, punch");
         RowForms x = new RowForms();
         due("punch of none", x.punch(), RowForms.NO);
         tell(x, "?0??t??e???1");
@@ -253,6 +261,7 @@ public final class RowFormsPromises extends Due {
     }
 
     private static void promise7Named() {
+        sentence("promise 7, named");
         String[] kinds = {"P", "I", "R", "RI"};
         RowForms x = new RowForms();
         due("named of none", x.named(), RowForms.NO);
@@ -270,6 +279,7 @@ public final class RowFormsPromises extends Due {
     }
 
     private static void promise8Tone() {
+        sentence("promise 8, tone");
         RowForms x = withRow(BERG);
         due("tone at 0", x.tone(0, 0), 9);
         due("tone at 7", x.tone(0, 7), 11);
@@ -281,6 +291,7 @@ public final class RowFormsPromises extends Due {
     }
 
     private static void promise9Turn() {
+        sentence("promise 9, turn");
         RowForms x = withRow(BERG);
         due("turn P3", x.turn(0, 3, 1), 1);
         due("P3", row(x, 1), "09te78621435");
@@ -300,6 +311,7 @@ public final class RowFormsPromises extends Due {
     }
 
     private static void promise10Behind() {
+        sentence("promise 10, behind");
         RowForms x = new RowForms();
         due("P11 behind P1", x.behind(11, 1), 0);
         due("I1 behind P2", x.behind(13, 2), 12 + 11);
@@ -320,6 +332,7 @@ public final class RowFormsPromises extends Due {
     }
 
     private static void promise11Back() {
+        sentence("promise 11, back");
         RowForms x = new RowForms();
         due("back of P0", x.back(0), 0);
         due("back of P1", x.back(1), 11);
@@ -334,6 +347,7 @@ public final class RowFormsPromises extends Due {
     }
 
     private static void promise12Canon() {
+        sentence("promise 12, canon");
         RowForms x = withRow("et2376845019");
         due("canon", canon(x, 0), "019845376et2");
         due("canon's form", x.canon(0, 12), 23);
@@ -360,6 +374,7 @@ public final class RowFormsPromises extends Due {
     }
 
     private static void promise13Leads() {
+        sentence("promise 13, leads");
         RowForms x = withRow(BERG);
         due("keepers", x.leads(0, 0, -1), 1);
         due("the keeper", x.leads(0, 0, 0), 0);
@@ -384,6 +399,7 @@ public final class RowFormsPromises extends Due {
     }
 
     private static void promise14Step() {
+        sentence("promise 14, step");
         RowForms x = withRow("0e1t29384756");
         for (int i = 0; i < 11; i++) {
             due("step " + i, x.step(0, i), i % 2 == 0 ? 11 - i : i + 1);
@@ -401,6 +417,7 @@ public final class RowFormsPromises extends Due {
     }
 
     private static void promise15Shared() {
+        sentence("promise 15, shared");
         RowForms x = new RowForms();
         for (int n = 2; n <= 6; n++) {
             due("all segments", x.shared(0, 0, n), 13 - n);
@@ -420,6 +437,7 @@ public final class RowFormsPromises extends Due {
     }
 
     private static void promise16Partner() {
+        sentence("promise 16, partner");
         RowForms x = new RowForms();
         due("partners", x.partner(0, -1), 4);
         int[] forms = {6, 12 + 11, 24, 36 + 5};
@@ -438,6 +456,7 @@ public final class RowFormsPromises extends Due {
     }
 
     private static void promise17Derived() {
+        sentence("promise 17, derived");
         RowForms x = new RowForms();
         for (int n : new int[] {2, 3, 4, 6}) {
             due("a rising row by " + n, x.derived(0, n), 1);
@@ -460,6 +479,7 @@ public final class RowFormsPromises extends Due {
     }
 
     private static void promise18Making() {
+        sentence("promise 18, making");
         RowForms x = new RowForms();
         due("made of three", x.making(0, 3, -1, 0), 48);
         due("made of four", x.making(0, 4, -1, 0), 8);
@@ -505,6 +525,7 @@ public final class RowFormsPromises extends Due {
     }
 
     private static void promise19Fillings() {
+        sentence("promise 19, fillings");
         RowForms x = new RowForms();
         for (int form = 0; form < 48; form++) {
             boolean pairs = form == 30 || form > 36 && form % 2 == 1;
@@ -528,6 +549,7 @@ public final class RowFormsPromises extends Due {
     }
 
     private static void promise20Filling() {
+        sentence("promise 20, filling");
         RowForms x = new RowForms();
         due("all holes, P0", filling(x, 0), "0123456789te");
         due("all holes, R6", filling(x, 30), "012345et9876");
@@ -552,6 +574,7 @@ public final class RowFormsPromises extends Due {
     }
 
     private static void promise21Sign() {
+        sentence("promise 21, sign");
         RowForms x = withRow(BERG);
         due("P0", written(x, 0), "P0:" + BERG);
         due("P10", written(x, 10), "P10:745623198et0");
@@ -575,6 +598,7 @@ public final class RowFormsPromises extends Due {
     }
 
     private static void promise22Image() {
+        sentence("promise 22, image");
         RowForms x = new RowForms();
         refused("image", x::image, 2, RowForms.OUTSIDE);
         due("no image behind refusals", x.restore(0), RowForms.STATE);
@@ -592,6 +616,7 @@ public final class RowFormsPromises extends Due {
     }
 
     private static void promise23Restore() {
+        sentence("promise 23, restore");
         RowForms x = withPattern("0??????????1");
         refused("restore", x::restore, 2, RowForms.OUTSIDE);
         for (int r = 0; r < 4; r++) {
@@ -617,6 +642,7 @@ public final class RowFormsPromises extends Due {
     }
 
     private static void promise24Told() {
+        sentence("promise 24, told");
         RowForms x = new RowForms();
         tell(x, "?t?????????e");
         due("signs", x.told(0), 12);

@@ -90,6 +90,7 @@ public final class RowFormsRefusals extends Due {
 
     /** States, each with the calls that are refused in it alone. */
     private static void eachStateKeepsAll() {
+        sentence("refused calls change nothing");
         String[] empty = {};
         changesNothing(empty, "load 0=-5", "punch=-5", "named=-5", "restore 0=-3", "restore 1=-3");
         String[] busy = {"tell " + Signs.BERG, "load 1", "turn 1 41 2", "image 1", "tell " + AT_ODDS, "punch",
@@ -105,7 +106,6 @@ public final class RowFormsRefusals extends Due {
     }
 
     private static void changesNothing(String[] state, String... refusedHere) {
-        sentence("refused calls change nothing");
         for (String line : UNKNOWN_ALONE) {
             leavesAll(state, line, UNKNOWN);
         }
