@@ -6,7 +6,9 @@ import java.lang.reflect.Method;
 import java.lang.reflect.Modifier;
 import java.nio.file.Files;
 import java.nio.file.Path;
+import java.util.ArrayList;
 import java.util.Arrays;
+import java.util.List;
 import java.util.Set;
 import java.util.TreeSet;
 import java.util.function.IntConsumer;
@@ -19,16 +21,25 @@ public final class RowFormsRules extends Due {
         + "leads(3) load(1) making(4) named(0) partner(2) punch(0) restore(1) say(1) shared(3) sign(3) step(2) "
         + "told(1) tone(2) turn(3) wipe(0)";
     private static final String CONSTANTS = "FULL=-4 NO=-5 NONE=-6 OUTSIDE=-2 STATE=-3 UNKNOWN=-1";
-    private static final String[] FORBIDDEN = {"throw", "throws", "try", "catch", "finally", "synchronized", "assert",
-        "->", "::", "import", "package", "protected", "native", "Exact", "hashCode", "toString", "Object",
-        "System\\.(?!arraycopy)"};
+    /** What no line of the code may hold; an arrow may stand behind a switch's case, but not for a lambda. */
+    private static final String[] FORBIDDEN = {"\\b(throws?|try|catch|finally|synchronized|assert)\\b",
+        "^(?!\\s*(case\\b|default\\b)).*->", "::", "^\\s*package\\b",
+        "^\\s*import (?!java\\.util\\.(ArrayList|List|Arrays|Iterator);)", "Exact\\b", "\\bObject\\b",
+        "\\bSystem\\.(?!arraycopy)", "\\.(hashCode|getClass|random|nanoTime)\\b"};
+    private static final Set<String> NOT_OF_ONES_OWN = Set.of("equals", "hashCode", "toString");
+    private static final int MOST_CLASSES = 12;
+    private static final int MOST_FIELDS = 20;
+    private static final int MOST_PARAMETERS = 7;
+    private static final int MOST_LINES = 60;
     private static final int CALLS = 512;
-    private static final long MOST_BYTES = 64 * 1024;
+    /** 7.3 million fields and elements of a byte or more, and 600,000 objects of sixteen, would take more than this. */
+    private static final long MOST_BYTES = 7_300_000;
 
     public static void main(String[] args) throws IOException, IllegalAccessException {
         theFace();
         theConstants();
         theNames();
+        theClasses();
         theSource(Path.of("src/main/java/RowForms.java"));
         theRoom();
         end();
@@ -47,9 +58,6 @@ public final class RowFormsRules extends Due {
         Constructor<?>[] constructors = RowForms.class.getDeclaredConstructors();
         due("constructors", Arrays.toString(constructors), "[public RowForms()]");
         due("class", Modifier.toString(RowForms.class.getModifiers()), "public final");
-        for (Class<?> inside : RowForms.class.getDeclaredClasses()) {
-            due(inside.getName() + " is static", "" + Modifier.isStatic(inside.getModifiers()), "true");
-        }
     }
 
     private static void theConstants() throws IllegalAccessException {
@@ -60,36 +68,61 @@ public final class RowFormsRules extends Due {
                 constants.add(field.getName() + "=" + field.get(null));
                 due(field.getName(), Modifier.toString(is) + " " + field.getType(), "public static final int");
             }
-            due(field.getName() + " is final", "" + Modifier.isFinal(is), "true");
         }
         due("constants", String.join(" ", constants), CONSTANTS);
     }
 
+    private static List<Class<?>> allClasses() {
+        List<Class<?>> all = new ArrayList<>(List.of(RowForms.class));
+        all.addAll(List.of(RowForms.class.getDeclaredClasses()));
+        return all;
+    }
+
     private static void theNames() {
-        for (Class<?> inside : RowForms.class.getDeclaredClasses()) {
-            for (Method method : inside.getDeclaredMethods()) {
-                due("a method inside bears a public name: " + method.getName(),
-                    "" + (" " + FACE).contains(" " + method.getName() + "("), "false");
+        for (Class<?> one : allClasses()) {
+            for (Method method : one.getDeclaredMethods()) {
+                String name = method.getName();
+                if (Modifier.isPrivate(method.getModifiers())) {
+                    due("a private method bears a public name: " + name, "" + (" " + FACE).contains(" " + name + "("),
+                        "false");
+                }
+                due("an object's own " + name, "" + (!one.isRecord() && NOT_OF_ONES_OWN.contains(name)), "false");
             }
         }
-        for (Method method : RowForms.class.getDeclaredMethods()) {
-            if (Modifier.isPrivate(method.getModifiers())) {
-                due("a private method bears a public name: " + method.getName(),
-                    "" + (" " + FACE).contains(" " + method.getName() + "("), "false");
+    }
+
+    private static void theClasses() {
+        due("too many classes", "" + (allClasses().size() > MOST_CLASSES), "false");
+        for (Class<?> one : allClasses()) {
+            int fields = 0;
+            for (Field field : one.getDeclaredFields()) {
+                boolean isStatic = Modifier.isStatic(field.getModifiers());
+                due(field + " is static and can change", "" + (isStatic && !Modifier.isFinal(field.getModifiers())),
+                    "false");
+                fields += isStatic ? 0 : 1;
             }
+            due(one + " has too many fields", "" + (fields > MOST_FIELDS), "false");
+            for (Method method : one.getDeclaredMethods()) {
+                due(method + " takes too much", "" + (method.getParameterCount() > MOST_PARAMETERS), "false");
+            }
+        }
+        for (Class<?> inside : RowForms.class.getDeclaredClasses()) {
+            int is = inside.getModifiers();
+            due(inside + " is static", "" + Modifier.isStatic(is), "true");
+            due(inside + " is seen from outside", "" + (Modifier.isPublic(is) || Modifier.isProtected(is)), "false");
         }
     }
 
     private static void theSource(Path file) throws IOException {
         String code = Files.readString(file).replaceAll("(?s)/\\*.*?\\*/", "").replaceAll("//[^\n]*", "");
-        for (String word : FORBIDDEN) {
-            Matcher found = Pattern.compile(word.matches("\\w+") ? "\\b" + word + "\\b" : word).matcher(code);
-            due("'" + word + "' in the code", "" + found.find(), "false");
+        for (String words : FORBIDDEN) {
+            Matcher found = Pattern.compile(words, Pattern.MULTILINE).matcher(code);
+            due("the code, by " + words, found.find() ? found.group() : "", "");
         }
         int lines = 0;
         for (String line : code.split("\n")) {
             lines = line.matches("    (    )?\\}") || line.isBlank() ? 0 : lines + 1;
-            due("a method of over sixty lines", "" + (lines > 60), "false");
+            due("a method of over sixty lines", "" + (lines > MOST_LINES), "false");
         }
     }
 
